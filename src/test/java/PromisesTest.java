@@ -48,47 +48,9 @@ public final class PromisesTest {
         CHECKS.due(call, got, want);
     }
 
-    /** Sources of one column each, with as many like rows (number 5) as told; a scan of each. */
-    private static RowLineage crowd(int... rows) {
-        RowLineage x = new RowLineage();
-        for (int s = 0; s < rows.length; s++) {
-            x.source(1);
-            likeRows(x, s, rows[s], 5);
-        }
-        for (int s = 0; s < rows.length; s++) {
-            x.scan(s);
-        }
-        return x;
-    }
-
-    private static void likeRows(RowLineage x, int source, int number, int value) {
-        for (int r = 0; r < number; r++) {
-            x.row(source, value, 0, 0, 0);
-        }
-    }
-
-    /** One source of two columns with the rows of these pairs; node 0 scans it. */
-    private static RowLineage pairs(int... numbers) {
-        RowLineage x = new RowLineage();
-        x.source(2);
-        for (int n = 0; n + 1 < numbers.length; n += 2) {
-            x.row(0, numbers[n], numbers[n + 1], 0, 0);
-        }
-        x.scan(0);
-        return x;
-    }
-
-    private static String tolds(RowLineage x) {
-        StringBuilder text = new StringBuilder();
-        for (int what = 0; what <= 5; what++) {
-            text.append(what == 0 ? "" : " ").append(x.told(what));
-        }
-        return text.toString();
-    }
-
     private static void promise1NewObject() {
         RowLineage x = new RowLineage();
-        due("1 told", tolds(x), "0 0 0 0 0 0");
+        due("1 told", Still.tolds(x), "0 0 0 0 0 0");
         due("1 run(0)", x.run(0), NONE);
         due("1 columns(0)", x.columns(0), NONE);
         due("1 row(0)", x.row(0, 1, 1, 1, 1), NONE);
@@ -135,7 +97,7 @@ public final class PromisesTest {
         due("3 refused", x.row(9, 0, 0, 0, 0), NONE);
         due("3 told(3) behind a refusal", x.told(3), 1);
         due("3 row of another source", x.row(0, 1, 2, 3, 4), 2);
-        due("3 told: what nodes gave is gone", tolds(x), "2 3 2 0 0 2");
+        due("3 told: what nodes gave is gone", Still.tolds(x), "2 3 2 0 0 2");
         due("3 ways(0)", x.ways(0), NONE);
         due("3 cell(0, 0)", Shown.cell(x, 0, 0), NO_INDEX);
         due("3 run(0) anew", Shown.run(x, 0), "2: " + LOW + ",-1,0," + HIGH + " [+0]; 1,2,3,4 [+2]");
@@ -145,13 +107,13 @@ public final class PromisesTest {
         x.run(1);
         due("3 a row too many", x.row(0, 0, 0, 0, 0), FULL);
         due("3 NONE before FULL", x.row(2, 0, 0, 0, 0), NONE);
-        due("3 told", tolds(x), "2 36 2 1 0 35");
+        due("3 told", Still.tolds(x), "2 36 2 1 0 35");
         due("3 run(0), all rows", x.run(0), 35);
         due("3 the last row", x.way(34, 0, 0), 1L << 35);
     }
 
     private static void promise4Scan() {
-        RowLineage x = pairs(2, 1, -3, 9, 2, -1, 2, 1);
+        RowLineage x = Scenes.pairs(2, 1, -3, 9, 2, -1, 2, 1);
         due("4 scan(-1)", x.scan(-1), NONE);
         due("4 scan(1)", x.scan(1), NONE);
         due("4 scan(HIGH)", x.scan(HIGH), NONE);
@@ -163,17 +125,17 @@ public final class PromisesTest {
         due("4 scan(1): NONE before FULL", x.scan(1), NONE);
         due("4 told(2)", x.told(2), 16);
         due("4 run(15)", x.run(15), 3);
-        RowLineage twelve = crowd(12);
+        RowLineage twelve = Scenes.crowd(12);
         due("4 twelve like rows", twelve.run(0), 1);
         due("4 twelve ways", twelve.ways(0), 12);
         due("4 a thirteenth", twelve.row(0, 5, 0, 0, 0), 12);
         due("4 is FULL", twelve.run(0), FULL);
-        RowLineage empty = crowd(0);
+        RowLineage empty = Scenes.crowd(0);
         due("4 no row", empty.run(0), 0);
     }
 
     private static void promise5Pick() {
-        RowLineage x = pairs(1, 1, 1, 2, 2, 1, 3, 3, 3, 3);
+        RowLineage x = Scenes.pairs(1, 1, 1, 2, 2, 1, 3, 3, 3, 3);
         due("5 below", x.pick(0, 0, 0, NONE, 2), 1);
         due("5 like", x.pick(0, 1, 1, NONE, 1), 2);
         due("5 above", x.pick(0, 0, 2, NONE, 1), 3);
@@ -210,7 +172,7 @@ public final class PromisesTest {
     }
 
     private static void promise6Cols() {
-        RowLineage x = pairs(1, 7, 2, 7, 2, 6);
+        RowLineage x = Scenes.pairs(1, 7, 2, 7, 2, 6);
         due("6 turned", x.cols(0, 12), 1);
         due("6 same", x.cols(0, 21), 2);
         due("6 second", x.cols(0, 2), 3);
@@ -289,9 +251,9 @@ public final class PromisesTest {
         fillNodes(x);
         due("8 FULL", x.unite(0, 1), FULL);
         due("8 BAD before FULL", x.unite(0, 2), BAD);
-        RowLineage y = crowd(7, 6);
+        RowLineage y = Scenes.crowd(7, 6);
         due("8 thirteen ways", y.run(y.unite(0, 1)), FULL);
-        RowLineage z = crowd(6, 6);
+        RowLineage z = Scenes.crowd(6, 6);
         due("8 twelve ways", z.run(z.unite(0, 1)), 1);
     }
 
@@ -328,7 +290,7 @@ public final class PromisesTest {
 
     /** A NOT whose last TURNS are 14, each absorbed; and one of 13 that are not. */
     private static void promise9NotWithManyTurns() {
-        RowLineage x = crowd(1, 1, 1, 12);
+        RowLineage x = Scenes.crowd(1, 1, 1, 12);
         int withB = x.cols(x.join(0, 1, 0, 0), 1);
         int withoutB = x.minus(0, 1);
         int withoutC = x.minus(0, 3);
@@ -337,13 +299,13 @@ public final class PromisesTest {
         due("9 three ways", Shown.run(x, all), "1: 5 [+0-1][+0+1][+0+2-3-4-5-6-7-8-9-10-11-12-13-14]");
         due("9 NOT of them", Shown.run(x, x.minus(1, all)), "1: 5 [-0+1]");
         due("9 thirteen turns", x.run(x.minus(1, withoutC)), FULL);
-        RowLineage y = crowd(1, 1, 11);
+        RowLineage y = Scenes.crowd(1, 1, 11);
         due("9 twelve turns", y.run(y.minus(1, y.minus(0, 2))), 1);
         due("9 twelve ways", y.ways(0), 12);
     }
 
     private static void promise10Fold() {
-        RowLineage x = pairs(4, 1, 7, 1, 2, 1, 5, 2);
+        RowLineage x = Scenes.pairs(4, 1, 7, 1, 2, 1, 5, 2);
         int[] kinds = {x.fold(0, 1, 0, 0), x.fold(0, 1, 0, 1), x.fold(0, 1, 0, 2), x.fold(0, 1, 0, 3)};
         due("10 columns", x.columns(kinds[1]), 2);
         due("10 how many", Shown.run(x, kinds[0]), "4: 1,1 [+0-1-2][-0+1-2][-0-1+2]; "
@@ -367,20 +329,20 @@ public final class PromisesTest {
     }
 
     private static void promise10FoldEdges() {
-        RowLineage wrap = pairs(1, HIGH, 1, 1);
+        RowLineage wrap = Scenes.pairs(1, HIGH, 1, 1);
         due("10 sum of 32 bits", Shown.run(wrap, wrap.fold(0, 0, 1, 1)),
             "3: 1," + LOW + " [+0+1]; 1,1 [-0+1]; 1," + HIGH + " [+0-1]");
         due("10 by its own column", Shown.run(wrap, wrap.fold(0, 1, 1, 2)), "2: 1,1 [+1]; " + HIGH + "," + HIGH
             + " [+0]");
-        RowLineage four = pairs(1, 1, 1, 2, 1, 3, 1, 4);
+        RowLineage four = Scenes.pairs(1, 1, 1, 2, 1, 3, 1, 4);
         due("10 a group of four", four.run(four.fold(0, 0, 1, 0)), 4);
         due("10 four of them", Shown.term(four.way(3, 0, 0), four.way(3, 0, 1)), "[+0+1+2+3]");
         four.row(0, 1, 5, 0, 0);
         due("10 a group of five", four.run(1), FULL);
-        RowLineage like = pairs(1, 3, 1, 3, 1, 4);
+        RowLineage like = Scenes.pairs(1, 3, 1, 3, 1, 4);
         due("10 like rows are one TUPLE", Shown.run(like, like.fold(0, 0, 1, 0)),
             "2: 1,1 [+0-2][+1-2][-0-1+2]; 1,2 [+0+2][+1+2]");
-        RowLineage alone = crowd(1, 12);
+        RowLineage alone = Scenes.crowd(1, 12);
         int thirteen = alone.minus(0, 1);
         due("10 one alone is not turned", alone.run(alone.fold(thirteen, 0, 0, 0)), 1);
         due("10 its lacks", alone.way(0, 0, 1), (1L << 13) - 2);
@@ -394,7 +356,7 @@ public final class PromisesTest {
         }
         int without = two.minus(two.scan(0), two.scan(1));
         due("10 two are turned", two.run(two.fold(without, 0, 1, 0)), FULL);
-        RowLineage both = pairs(1, 1, 1, 1, 1, 1, 1, 2, 1, 2, 1, 2, 1, 2);
+        RowLineage both = Scenes.pairs(1, 1, 1, 1, 1, 1, 1, 2, 1, 2, 1, 2, 1, 2);
         due("10 four without three, and twelve", both.run(both.fold(0, 0, 1, 3)), FULL);
         due("10 three times four ways", both.run(both.fold(0, 0, 1, 1)), 3);
         due("10 twelve", both.ways(2), 12);
@@ -403,7 +365,7 @@ public final class PromisesTest {
     }
 
     private static void promise11Columns() {
-        RowLineage x = pairs(1, 1);
+        RowLineage x = Scenes.pairs(1, 1);
         x.source(3);
         x.scan(1);
         due("11 columns(0)", x.columns(0), 2);
@@ -420,7 +382,7 @@ public final class PromisesTest {
     }
 
     private static void promise12Run() {
-        RowLineage x = crowd(12, 2, 1);
+        RowLineage x = Scenes.crowd(12, 2, 1);
         int tooMuch = x.unite(0, 1);
         int onIt = x.pick(tooMuch, 0, 1, NONE, 77);
         int overIt = x.minus(2, onIt);
@@ -442,7 +404,7 @@ public final class PromisesTest {
 
     /** EITHER goes one by one: 13 ways on the way are FULL, even if a later one would absorb them all. */
     private static void promise12AbsorbedAsItGoes() {
-        RowLineage x = crowd(12);
+        RowLineage x = Scenes.crowd(12);
         due("12 BOTH, 144 that leave 12", x.run(x.join(0, 0, 0, 0)), 1);
         due("12 twelve", x.ways(0), 12);
         for (int second = 0; second <= 3; second += 3) {
@@ -477,7 +439,7 @@ public final class PromisesTest {
             x.scan(1);
             due("12 8 times " + second, x.run(x.join(0, 1, 0, 0)), second == 10 ? 80 : FULL);
         }
-        RowLineage x = pairs();
+        RowLineage x = Scenes.pairs();
         for (int r = 0; r < 9; r++) {
             x.row(0, 1, r, 0, 0);
         }
@@ -493,7 +455,7 @@ public final class PromisesTest {
     }
 
     private static void promise13Cell() {
-        RowLineage x = pairs(HIGH, LOW, 3, 4);
+        RowLineage x = Scenes.pairs(HIGH, LOW, 3, 4);
         due("13 before a run", Shown.cell(x, 0, 0), NO_INDEX);
         x.run(0);
         due("13 cell(0, 0)", Shown.cell(x, 0, 0), "3");
@@ -511,7 +473,7 @@ public final class PromisesTest {
     }
 
     private static void promise14Ways() {
-        RowLineage x = pairs(1, 1, 1, 1, 2, 2);
+        RowLineage x = Scenes.pairs(1, 1, 1, 1, 2, 2);
         x.run(0);
         due("14 ways(0)", x.ways(0), 2);
         due("14 ways(1)", x.ways(1), 1);
@@ -523,7 +485,7 @@ public final class PromisesTest {
     }
 
     private static void promise15Way() {
-        RowLineage x = crowd(2, 1);
+        RowLineage x = Scenes.crowd(2, 1);
         x.run(x.minus(0, 1));
         due("15 way(0, 0, 0)", Shown.way(x, 0, 0, 0), "1");
         due("15 way(0, 0, 1)", Shown.way(x, 0, 0, 1), "4");
@@ -536,7 +498,7 @@ public final class PromisesTest {
         for (int what : new int[] {2, -1, LOW, HIGH}) {
             due("15 way(0, 0, " + what + ")", Shown.way(x, 0, 0, what), NO_ARGUMENT);
         }
-        RowLineage z = crowd(0, 1);
+        RowLineage z = Scenes.crowd(0, 1);
         for (int r = 1; r < 36; r++) {
             z.row(0, r == 35 ? 5 : 100 + r, 0, 0, 0);
         }
@@ -547,7 +509,7 @@ public final class PromisesTest {
     }
 
     private static void promise16Drop() {
-        RowLineage x = crowd(2);
+        RowLineage x = Scenes.crowd(2);
         x.run(0);
         due("16 PRESENT at first", x.drop(1, false), 0);
         due("16 dropped", x.drop(1, true), 1);
@@ -570,7 +532,7 @@ public final class PromisesTest {
     }
 
     private static void promise17Holds() {
-        RowLineage x = crowd(1, 1);
+        RowLineage x = Scenes.crowd(1, 1);
         x.run(x.minus(0, 1));
         due("17 lacks a PRESENT row", x.holds(0), 0);
         x.drop(1, true);
@@ -583,7 +545,7 @@ public final class PromisesTest {
     }
 
     private static void promise18Made() {
-        RowLineage x = crowd(3, 1);
+        RowLineage x = Scenes.crowd(3, 1);
         x.run(x.minus(0, 1));
         due("18 none does", x.made(0), NONE);
         x.drop(3, true);
@@ -600,7 +562,7 @@ public final class PromisesTest {
     }
 
     private static void promise19Under() {
-        RowLineage x = crowd(2, 1);
+        RowLineage x = Scenes.crowd(2, 1);
         x.run(x.minus(0, 1));
         x.drop(0, true);
         long[][] sets = {{0, 0}, {1, 1}, {2, 1}, {3, 1}, {4, 0}, {5, 0}, {7, 0}, {8, BAD}, {9, BAD}, {-1, BAD},
@@ -613,7 +575,7 @@ public final class PromisesTest {
             due("19 NONE before BAD", x.under(t, 8), NONE);
         }
         due("19 changes nothing", x.told(5), 2);
-        RowLineage y = crowd(12, 12, 12);
+        RowLineage y = Scenes.crowd(12, 12, 12);
         y.run(2);
         due("19 row 35", y.under(0, 1L << 35), 1);
         due("19 all rows", y.under(0, (1L << 36) - 1), 1);
@@ -643,7 +605,7 @@ public final class PromisesTest {
         due("20 forward(2), back again", x.forward(2), 0);
         x.drop(1, true);
         due("20 forward(2), both away", x.forward(2), 1);
-        RowLineage y = pairs(1, 1, 1, 2, 1, 3);
+        RowLineage y = Scenes.pairs(1, 1, 1, 2, 1, 3);
         y.run(y.join(0, 0, 0, 0));
         due("20 five of nine", y.forward(0), 5);
         due("20 changes nothing", y.told(4), 9);
@@ -653,7 +615,7 @@ public final class PromisesTest {
     }
 
     private static void promise21Count() {
-        RowLineage x = crowd(3, 2);
+        RowLineage x = Scenes.crowd(3, 2);
         x.run(0);
         due("21 one of three", x.count(0), 7);
         x.run(x.minus(0, 1));
@@ -663,20 +625,20 @@ public final class PromisesTest {
         for (int t : new int[] {1, -1, LOW, HIGH}) {
             due("21 count(" + t + ")", x.count(t), NONE);
         }
-        RowLineage y = crowd(4, 12, 1);
+        RowLineage y = Scenes.crowd(4, 12, 1);
         int sixteen = y.minus(0, 1);
         int seventeen = y.minus(sixteen, 2);
         y.run(sixteen);
         due("21 sixteen rows", y.count(0), 15);
         y.run(seventeen);
         due("21 seventeen rows", y.count(0), FULL);
-        RowLineage twelve = crowd(12);
+        RowLineage twelve = Scenes.crowd(12);
         twelve.run(0);
         due("21 twelve ways", twelve.count(0), 4095);
     }
 
     private static void promise22Matters() {
-        RowLineage x = crowd(1, 1, 1);
+        RowLineage x = Scenes.crowd(1, 1, 1);
         int withB = x.cols(x.join(0, 1, 0, 0), 1);
         int withoutB = x.minus(0, 1);
         x.run(x.unite(withB, withoutB));
@@ -697,7 +659,7 @@ public final class PromisesTest {
         due("22 of these row 0", x.matters(0, 0), 1);
         due("22 of these row 1", x.matters(0, 1), 1);
         due("22 of these row 2", x.matters(0, 2), 1);
-        RowLineage y = crowd(4, 12, 1, 1);
+        RowLineage y = Scenes.crowd(4, 12, 1, 1);
         int sixteen = y.minus(0, 1);
         y.run(sixteen);
         due("22 sixteen rows", y.matters(0, 15), 1);
@@ -710,7 +672,7 @@ public final class PromisesTest {
     }
 
     private static void promise23Blame() {
-        RowLineage x = crowd(3, 2);
+        RowLineage x = Scenes.crowd(3, 2);
         x.run(0);
         due("23 each of three", x.blame(0), 3);
         x.drop(1, true);
@@ -728,7 +690,7 @@ public final class PromisesTest {
         for (int t : new int[] {1, -1, LOW, HIGH}) {
             due("23 blame(" + t + ")", x.blame(t), NONE);
         }
-        RowLineage y = pairs(1, 1, 1, 2, 1, 3);
+        RowLineage y = Scenes.pairs(1, 1, 1, 2, 1, 3);
         y.run(y.fold(0, 0, 1, 0));
         due("23 three to two or one", y.blame(1), 1);
         due("23 three to one", y.blame(0), 2);
@@ -739,7 +701,7 @@ public final class PromisesTest {
     }
 
     private static void promise23BlameOfMany() {
-        RowLineage x = crowd(4, 12, 1);
+        RowLineage x = Scenes.crowd(4, 12, 1);
         int sixteen = x.minus(0, 1);
         int seventeen = x.minus(sixteen, 2);
         x.run(sixteen);
@@ -753,25 +715,25 @@ public final class PromisesTest {
     }
 
     private static void promise24Told() {
-        RowLineage x = crowd(2, 1);
-        due("24 told", tolds(x), "2 3 2 0 0 3");
+        RowLineage x = Scenes.crowd(2, 1);
+        due("24 told", Still.tolds(x), "2 3 2 0 0 3");
         x.run(x.minus(0, 1));
-        due("24 told", tolds(x), "2 3 3 1 0 3");
+        due("24 told", Still.tolds(x), "2 3 3 1 0 3");
         x.drop(2, true);
-        due("24 told", tolds(x), "2 3 3 1 1 2");
+        due("24 told", Still.tolds(x), "2 3 3 1 1 2");
         for (int what : new int[] {-1, 6, LOW, HIGH}) {
             due("24 told(" + what + ")", x.told(what), BAD);
         }
     }
 
     private static void promise25Clear() {
-        RowLineage x = crowd(12, 12, 12);
+        RowLineage x = Scenes.crowd(12, 12, 12);
         fillNodes(x);
         x.source(4);
         x.drop(3, true);
         x.run(0);
         x.clear();
-        due("25 told", tolds(x), "0 0 0 0 0 0");
+        due("25 told", Still.tolds(x), "0 0 0 0 0 0");
         due("25 run(0)", x.run(0), NONE);
         due("25 scan(0)", x.scan(0), NONE);
         due("25 cell(0, 0)", Shown.cell(x, 0, 0), NO_INDEX);
@@ -785,13 +747,13 @@ public final class PromisesTest {
         due("25 none is DROPPED", x.told(4), 4);
         x.clear();
         x.clear();
-        due("25 told", tolds(x), "0 0 0 0 0 0");
+        due("25 told", Still.tolds(x), "0 0 0 0 0 0");
     }
 
     private static void refusalsChangeNothing() {
-        RowLineage x = crowd(2, 1);
+        RowLineage x = Scenes.crowd(2, 1);
         x.run(x.minus(0, 1));
-        String before = tolds(x) + Shown.result(x, 1);
+        String before = Still.tolds(x) + Shown.result(x, 1);
         x.source(0);
         x.row(7, 0, 0, 0, 0);
         x.scan(7);
@@ -806,7 +768,7 @@ public final class PromisesTest {
         x.under(0, 1L << 7);
         x.forward(7);
         x.told(7);
-        due("refusals change nothing", tolds(x) + Shown.result(x, 1), before);
+        due("refusals change nothing", Still.tolds(x) + Shown.result(x, 1), before);
     }
 
     private PromisesTest() {
