@@ -59,7 +59,8 @@ public final class BoundsTest {
     /** "have 1 to 4 COLUMNS"; "with the first of these numbers (as many as it has COLUMNS)" */
     private static void columnsOfASource() {
         String[] wants = {"1: 1 [+0][+1][+2][+3][+4]", "2: 1,2 [+0][+1][+2][+3]; 1,9 [+4]",
-            "3: 1,2,3 [+0][+1][+2]; 1,2,9 [+3]; 1,9,3 [+4]", "4: 1,2,3,4 [+0][+1]; 1,2,3,9 [+2]; 1,2,9,4 [+3]; 1,9,3,4 [+4]"};
+            "3: 1,2,3 [+0][+1][+2]; 1,2,9 [+3]; 1,9,3 [+4]",
+            "4: 1,2,3,4 [+0][+1]; 1,2,3,9 [+2]; 1,2,9,4 [+3]; 1,9,3,4 [+4]"};
         for (int columns = 0; columns <= 5; columns++) {
             RowLineage x = new RowLineage();
             boolean fits = columns >= 1 && columns <= 4;

@@ -27,6 +27,7 @@ public final class FullTest {
         eightyTuplesOfJoin();
         eightyTuplesOfUnite();
         eightyTuplesOfFold();
+        eightyTuplesTakenFurther();
         falseTuplesAreNotCounted();
         fourOfAGroup();
         fourTuplesOfMoreRows();
@@ -101,7 +102,8 @@ public final class FullTest {
         for (int[] s : sizes) {
             RowLineage x = sharing(s[0], s[1]);
             int terms = 1 + s[0] * s[1];
-            due("join of 1+" + s[0] + " and 1+" + s[1], runAndWays(x, x.join(3, 4, 0, 0)), fullOr(terms <= 12, "1 " + terms));
+            due("join of 1+" + s[0] + " and 1+" + s[1], runAndWays(x, x.join(3, 4, 0, 0)),
+                fullOr(terms <= 12, "1 " + terms));
         }
         RowLineage x = Scenes.crowd(3, 4, 12);
         due("join of 3 and 4", runAndWays(x, x.join(0, 1, 0, 0)), "1 12");
@@ -220,7 +222,8 @@ public final class FullTest {
             x.row(1, 1, absorbing, 0, 0);
             int joined = x.cols(x.join(x.scan(0), x.scan(1), 0, 0), 21);
             int all = x.unite(joined, 1);
-            due("cols, the absorbing TUPLE has " + absorbing, runAndWays(x, x.cols(all, 1)), fullOr(absorbing <= 2, "1 1"));
+            due("cols, the absorbing TUPLE has " + absorbing, runAndWays(x, x.cols(all, 1)),
+                fullOr(absorbing <= 2, "1 1"));
         }
     }
 
@@ -326,6 +329,36 @@ public final class FullTest {
         }
     }
 
+    /** Each operator over 80 TUPLES: 20 times 4, of which fold makes 20 GROUPS with 4 numbers each. */
+    private static void eightyTuplesTakenFurther() {
+        RowLineage x = new RowLineage();
+        x.source(2);
+        x.source(2);
+        x.source(1);
+        for (int r = 0; r < 20; r++) {
+            x.row(0, 1, r, 0, 0);
+        }
+        for (int r = 0; r < 4; r++) {
+            x.row(1, 1, r, 0, 0);
+        }
+        x.row(2, 1, 0, 0, 0);
+        for (int s = 0; s < 3; s++) {
+            x.scan(s);
+        }
+        int eighty = x.join(0, 1, 0, 0);
+        due("80", x.run(eighty), 80);
+        due("fold of 80", x.run(x.fold(eighty, 1, 3, 0)), 80);
+        due("fold of 80, with their sums", x.run(x.fold(eighty, 1, 3, 1)), FULL);
+        due("fold of 80, by the other COLUMN", x.run(x.fold(eighty, 3, 1, 0)), FULL);
+        due("join of 80", x.run(x.join(eighty, 2, 0, 0)), 80);
+        due("join with 80", x.run(x.join(2, eighty, 0, 2)), 80);
+        due("join of 80 that leaves some", x.run(x.join(eighty, 2, 3, 0)), 20);
+        due("minus of 80", x.run(x.minus(eighty, x.pick(eighty, 3, 2, NONE, 1))), 40);
+        due("cols of 80 to 20", x.run(x.cols(eighty, 2)), 20);
+        due("cols of 80 to one", x.run(x.cols(eighty, 1)), FULL);
+        due("pick of 80", x.run(x.pick(eighty, 1, 0, 3, 0)), 6);
+    }
+
     /** "Those whose WAYS comes out as FALSE are none": 81 pairs, 80 TUPLES. */
     private static void falseTuplesAreNotCounted() {
         for (int last = 0; last <= 1; last++) {
@@ -359,7 +392,8 @@ public final class FullTest {
                     x.row(0, -3, 1 << r, 0, 0);
                 }
                 int numbers = kind == 1 ? (1 << size) - 1 : size;
-                due("fold, kind " + kind + ", of " + size, x.run(x.fold(0, 0, 1, kind)), size <= 4 ? numbers + 1 : FULL);
+                int wanted = size <= 4 ? numbers + 1 : FULL;
+                due("fold, kind " + kind + ", of " + size, x.run(x.fold(0, 0, 1, kind)), wanted);
                 due("by the other COLUMN", x.run(x.fold(0, 1, 0, kind)), size + 1);
             }
         }

@@ -491,7 +491,8 @@ public final class PromisesTest {
         due("15 way(0, 0, 1)", Shown.way(x, 0, 0, 1), "4");
         due("15 way(0, 1, 0)", Shown.way(x, 0, 1, 0), "2");
         due("15 way(0, 1, 1)", Shown.way(x, 0, 1, 1), "4");
-        int[][] wrongs = {{1, 0, 0}, {-1, 0, 0}, {0, 2, 0}, {0, -1, 0}, {0, LOW, 1}, {HIGH, 0, 1}, {1, 0, 2}, {0, 2, 2}};
+        int[][] wrongs = {{1, 0, 0}, {-1, 0, 0}, {0, 2, 0}, {0, -1, 0}, {0, LOW, 1}, {HIGH, 0, 1}, {1, 0, 2},
+            {0, 2, 2}};
         for (int[] w : wrongs) {
             due("15 way(" + w[0] + ", " + w[1] + ", " + w[2] + ")", Shown.way(x, w[0], w[1], w[2]), NO_INDEX);
         }

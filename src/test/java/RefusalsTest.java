@@ -153,8 +153,8 @@ public final class RefusalsTest {
 
     /** Node 0 has 2 COLUMNS, node 6 has 6. */
     private static void promise6ColsDigits() {
-        int[] bad = {0, -1, LOW, 1000000, 1111111, HIGH, 10, 20, 101, 110, 100000, 111110, 101111, 900000, 990999, 30, 103,
-            301};
+        int[] bad = {0, -1, LOW, 1000000, 1111111, HIGH, 10, 20, 101, 110, 100000, 111110, 101111, 900000, 990999,
+            30, 103, 301};
         int[] none = {3, 9, 13, 31, 111113, 311111, 113111, 999999};
         Scene[] scenes = {Scenes::middle, Scenes::full};
         for (Scene scene : scenes) {

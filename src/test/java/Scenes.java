@@ -44,7 +44,10 @@ final class Scenes {
      * 5 [+0-3-4][+2-3-4]; 6 [+1]. Node 6 has as many columns as a node may have.
      */
     static RowLineage middle() {
-        RowLineage x = new RowLineage();
+        return middleOn(new RowLineage());
+    }
+
+    static RowLineage middleOn(RowLineage x) {
         x.source(2);
         x.source(1);
         x.source(3);
@@ -57,6 +60,26 @@ final class Scenes {
         middleNodes(x);
         x.drop(1, true);
         x.run(4);
+        return x;
+    }
+
+    /** As the middle one, but with many more TUPLES in its nodes; all of them are run. */
+    static RowLineage larger() {
+        RowLineage x = new RowLineage();
+        x.source(2);
+        x.source(1);
+        x.source(3);
+        for (int r = 0; r < 12; r++) {
+            x.row(0, 1 + r / 4, 5 + r, 0, 0);
+            x.row(1, 5 + r, 0, 0, 0);
+        }
+        for (int r = 0; r < 8; r++) {
+            x.row(2, 1, 2, r, 0);
+        }
+        middleNodes(x);
+        for (int n = 0; n < 7; n++) {
+            x.run(n);
+        }
         return x;
     }
 
