@@ -20,7 +20,7 @@ public final class RowLineage {
     private static final int UNKNOWN = 0, GIVEN = 1, OVERFULL = 2;
 
     private final Sources sources = new Sources();
-    private final Operators operators = new Operators(sources);
+    private final Operators operators = new Operators();
     private final Node[] nodes = new Node[MOST_NODES];
     private final Table[] tables = new Table[MOST_NODES];
     private final Table nothing = new Table(0);
@@ -145,8 +145,9 @@ public final class RowLineage {
             Node next = nodes[n];
             boolean isNeeded = (needed >> n & 1L) != 0;
             if (isNeeded && next.state == UNKNOWN) {
-                boolean fits = operators.fill(next, tableOf(next.first), tableOf(next.second), tables[n]);
-                next.state = fits ? GIVEN : OVERFULL;
+                Table first = tableOf(next.first);
+                Table second = tableOf(next.second);
+                next.state = operators.fill(next, sources, first, second, tables[n]) ? GIVEN : OVERFULL;
             }
             if (isNeeded && next.state == OVERFULL) {
                 return FULL;
@@ -774,20 +775,18 @@ public final class RowLineage {
         private final Ways[] turned = new Ways[MOST_IN_GROUP];
         private final Tuple[] group = new Tuple[MOST_IN_GROUP];
         private final int[] key = new int[MOST_COLUMNS];
-        private final Sources sources;
 
-        private Operators(Sources itsSources) {
-            sources = itsSources;
+        private Operators() {
             for (int m = 0; m < MOST_IN_GROUP; m++) {
                 turned[m] = new Ways();
             }
         }
 
-        private boolean fill(Node node, Table first, Table second, Table out) {
+        private boolean fill(Node node, Sources sources, Table first, Table second, Table out) {
             out.begin(node.width);
             switch (node.operator) {
                 case SCAN:
-                    return fillScan(node, out);
+                    return fillScan(node, sources, out);
                 case PICK:
                     return fillPick(node, first, out);
                 case COLS:
@@ -803,7 +802,7 @@ public final class RowLineage {
             }
         }
 
-        private boolean fillScan(Node node, Table out) {
+        private boolean fillScan(Node node, Sources sources, Table out) {
             for (int r = 0; r < sources.rowCount; r++) {
                 if (sources.sourceOf[r] == node.number) {
                     made.becomeTerm(1L << r, 0L);
@@ -966,20 +965,22 @@ public final class RowLineage {
         }
 
         private int foldedNumber(Node node, int set, int members) {
+            int many = 0;
             int sum = 0;
-            int least = Integer.MAX_VALUE;
-            int greatest = Integer.MIN_VALUE;
+            int least = 0;
+            int greatest = 0;
             for (int m = 0; m < members; m++) {
                 if ((set >> m & 1) != 0) {
                     int number = group[m].cells[node.other];
                     sum += number;
-                    least = Math.min(least, number);
-                    greatest = Math.max(greatest, number);
+                    least = many == 0 ? number : Math.min(least, number);
+                    greatest = many == 0 ? number : Math.max(greatest, number);
+                    many++;
                 }
             }
             switch (node.kind) {
                 case HOW_MANY:
-                    return Integer.bitCount(set);
+                    return many;
                 case SUM:
                     return sum;
                 case LEAST:
